@@ -24,6 +24,7 @@ public final class ShownNot {
     private static final int PAINTINGS_BY_BITS = 1000;
     private static final int MENDINGS = 48;
     private static final int MOST_OTHER = 4;
+    private static final int MOST_TOLD = 1000000000;
 
     private static final int ASK_BORDERS = 0;
     private static final int ASK_PAIRS = 1;
@@ -41,7 +42,6 @@ public final class ShownNot {
     private final State now;
     private final State kept;
     private final Reader reader;
-    private final AnswerBook book;
     private final Play play;
     private final int[] judgeUnlike;
     private final Power odds;
@@ -51,8 +51,7 @@ public final class ShownNot {
         now = new State();
         kept = new State();
         reader = new Reader();
-        book = new AnswerBook();
-        play = new Play(book);
+        play = new Play();
         judgeUnlike = new int[MOST_LANDS * MOST_LANDS];
         for (int pair = 0; pair < judgeUnlike.length; pair++) {
             judgeUnlike[pair] = UNLIKE_OPENINGS;
@@ -66,7 +65,6 @@ public final class ShownNot {
             return NONE;
         }
         now.maps[now.mapCount].begin(lands);
-        book.forget();
         now.mapCount++;
         return now.mapCount - 1;
     }
@@ -77,7 +75,6 @@ public final class ShownNot {
             return NONE;
         }
         chart.join(one, other);
-        book.forget();
         return chart.borders - 1;
     }
 
@@ -86,8 +83,7 @@ public final class ShownNot {
         if (chart == null) {
             return NONE;
         }
-        book.open(chart);
-        return i == NONE ? book.count : book.rowAt(i);
+        return i == NONE ? chart.countAnswers() : chart.answerRow(i);
     }
 
     public int swapped(int map, int row, int swap) {
@@ -167,7 +163,7 @@ public final class ShownNot {
         if (k < 0 || k >= play.askings || !isPaint(a) || !isPaint(b)) {
             return NONE;
         }
-        return oneIf(play.believes(k, a, b));
+        return oneIf(play.believes(k, a * PAINTS + b));
     }
 
     public int right(int showing, int map, int what) {
@@ -196,7 +192,7 @@ public final class ShownNot {
     }
 
     public int nights(int showing, int map, int told) {
-        if (told < 2 || told > JudgeCode.HIGHEST || !playFor(showing, map) || play.askings == 0) {
+        if (told < 2 || told > MOST_TOLD || !playFor(showing, map) || play.askings == 0) {
             return NONE;
         }
         play.findCheat();
@@ -231,11 +227,8 @@ public final class ShownNot {
         if (!playFor(showing, map)) {
             return NONE;
         }
-        book.open(play.chart);
-        if (answer < 0 || answer >= book.count) {
-            return NONE;
-        }
-        return play.weigh(now.sightings, book.rowAt(answer));
+        int pack = play.chart.answerPack(answer);
+        return pack == NONE ? NONE : play.weigh(now.sightings, pack);
     }
 
     public int possible(int showing, int map, int what) {
@@ -255,7 +248,7 @@ public final class ShownNot {
         if (chart == null || !chart.hasRow(row) || !isSwap(swap)) {
             return false;
         }
-        now.boxes.lay(map, swapRow(row, chart.lands, swap), chart.lands);
+        now.boxes.lay(map, packOf(swapRow(row, chart.lands, swap), chart.lands));
         return true;
     }
 
@@ -270,7 +263,7 @@ public final class ShownNot {
     public int pulled(int land) {
         Chart chart = now.chartAt(now.boxes.map);
         if (land == NONE) {
-            return oneIf(chart != null && now.boxes.sawAll(chart.lands) && chart.isPainted(now.boxes.paints));
+            return oneIf(chart != null && now.boxes.sawAll(chart.lands) && chart.isPainted(now.boxes.pack));
         }
         if (chart == null || land < 0 || land >= chart.lands) {
             return NONE;
@@ -326,14 +319,12 @@ public final class ShownNot {
         if (first.borders != second.borders || first.borders == 0) {
             return NONE;
         }
-        book.open(first);
-        int row = book.rowAt(i);
-        book.open(second);
-        int otherRow = book.rowAt(j);
-        if (row == NONE || otherRow == NONE) {
+        int pack = first.answerPack(i);
+        int otherPack = second.answerPack(j);
+        if (pack == NONE || otherPack == NONE) {
             return NONE;
         }
-        return countUnlikeTalks(first, row, second, otherRow, drawnSwaps(told.swap));
+        return countUnlikeTalks(first, pack, second, otherPack, drawnSwaps(told.swap));
     }
 
     public boolean letters(int v) {
@@ -369,12 +360,7 @@ public final class ShownNot {
         if (told == null || painted == null || bare == null || what < 0 || what > 4) {
             return NONE;
         }
-        book.open(bare);
-        if (book.count > 0) {
-            return NONE;
-        }
-        book.open(painted);
-        if (book.count == 0) {
+        if (painted.countAnswers() == 0 || bare.countAnswers() > 0) {
             return NONE;
         }
         int mending = findMending(told, painted, bare);
@@ -388,7 +374,6 @@ public final class ShownNot {
 
     public int back() {
         now.become(kept);
-        book.forget();
         return now.showingCount;
     }
 
@@ -458,12 +443,12 @@ public final class ShownNot {
      * For a told c1 each c gives another c2, so all pairs of BORDERS come once; openings of
      * like paints never come, whichever ANSWER is known.
      */
-    private static int countUnlikeTalks(Chart first, int row, Chart second, int otherRow, int drawn) {
+    private static int countUnlikeTalks(Chart first, int pack, Chart second, int otherPack, int drawn) {
         int count = 0;
         for (int one = 0; one < first.borders; one++) {
-            int ofFirst = first.openingsOf(one, row, drawn);
+            int ofFirst = first.openingsOf(one, pack, drawn);
             for (int other = 0; other < second.borders; other++) {
-                int ofSecond = second.openingsOf(other, otherRow, drawn);
+                int ofSecond = second.openingsOf(other, otherPack, drawn);
                 count += unlikePairs(ofFirst, ofSecond);
             }
         }
@@ -553,12 +538,24 @@ public final class ShownNot {
         return rows;
     }
 
-    private static void unpack(int row, int lands, int[] paints) {
+    /** A ROW as a pack: two bits a LAND, so that a paint is had without dividing. */
+    private static int packOf(int row, int lands) {
+        int pack = 0;
         int rest = row;
-        for (int land = Math.min(lands, paints.length) - 1; land >= 0; land--) {
-            paints[land] = rest % PAINTS;
+        for (int land = lands - 1; land >= 0; land--) {
+            pack |= rest % PAINTS << 2 * land;
             rest /= PAINTS;
         }
+        return pack;
+    }
+
+    private static int paintIn(int pack, int land) {
+        return pack >> 2 * land & 3;
+    }
+
+    /** What two LANDS are opened as: 3 * a + b. */
+    private static int openingOf(int pack, int x, int y) {
+        return paintIn(pack, x) * PAINTS + paintIn(pack, y);
     }
 
     private static int swapRow(int row, int lands, int swap) {
@@ -627,7 +624,7 @@ public final class ShownNot {
         }
     }
 
-    /** A MAP. */
+    /** A MAP, and its ANSWERS, which are kept as many calls want them. */
     private static final class Chart {
         final int[] ones = new int[MOST_BORDERS];
         final int[] others = new int[MOST_BORDERS];
@@ -636,10 +633,16 @@ public final class ShownNot {
         private final int[] turned = new int[MOST_LANDS];
         int lands;
         int borders;
+        /** The ROWS of the ANSWERS, made when first wanted: a MAP of the image never needs them. */
+        private int[] answerRows;
+        private int[] answerPacks;
+        private int answers;
+        private boolean answersStand;
 
         void begin(int count) {
             lands = count;
             borders = 0;
+            answersStand = false;
             for (int land = 0; land < MOST_LANDS; land++) {
                 near[land] = 0;
             }
@@ -648,6 +651,7 @@ public final class ShownNot {
         void become(Chart from) {
             lands = from.lands;
             borders = from.borders;
+            answersStand = false;
             System.arraycopy(from.ones, 0, ones, 0, MOST_BORDERS);
             System.arraycopy(from.others, 0, others, 0, MOST_BORDERS);
             System.arraycopy(from.near, 0, near, 0, MOST_LANDS);
@@ -666,6 +670,7 @@ public final class ShownNot {
             near[one] |= 1 << other;
             near[other] |= 1 << one;
             borders++;
+            answersStand = false;
         }
 
         boolean hasRow(int number) {
@@ -673,19 +678,51 @@ public final class ShownNot {
         }
 
         /** Whether these paints are an ANSWER. */
-        boolean isPainted(int[] paints) {
+        boolean isPainted(int pack) {
             for (int b = 0; b < borders; b++) {
-                if (paints[ones[b]] == paints[others[b]]) {
+                if (paintIn(pack, ones[b]) == paintIn(pack, others[b])) {
                     return false;
                 }
             }
             return true;
         }
 
-        /** What a BORDER may be opened as, if this ROW is swapped, a bit for each opening. */
-        int openingsOf(int number, int row, int drawn) {
-            unpack(row, lands, turned);
-            int opening = turned[ones[number]] * PAINTS + turned[others[number]];
+        int countAnswers() {
+            if (!answersStand) {
+                findAnswers();
+            }
+            return answers;
+        }
+
+        private void findAnswers() {
+            if (answerRows == null || answerPacks == null) {
+                answerRows = new int[MOST_ROWS];
+                answerPacks = new int[MOST_ROWS];
+            }
+            answers = 0;
+            int rows = Math.min(rowsOf(lands), MOST_ROWS);
+            for (int number = 0; number < rows; number++) {
+                int pack = packOf(number, lands);
+                if (isPainted(pack)) {
+                    answerRows[answers] = number;
+                    answerPacks[answers] = pack;
+                    answers++;
+                }
+            }
+            answersStand = true;
+        }
+
+        int answerRow(int i) {
+            return i >= 0 && i < countAnswers() ? answerRows[i] : NONE;
+        }
+
+        int answerPack(int i) {
+            return i >= 0 && i < countAnswers() ? answerPacks[i] : NONE;
+        }
+
+        /** What a BORDER may be opened as, if these paints are swapped, a bit for each opening. */
+        int openingsOf(int number, int pack, int drawn) {
+            int opening = openingOf(pack, ones[number], others[number]);
             int openings = 0;
             for (int swap = 0; swap < SWAPS; swap++) {
                 if (hasBit(drawn, swap)) {
@@ -729,7 +766,7 @@ public final class ShownNot {
             return turnsFrom(to, 0, 0);
         }
 
-        /** Turns that go on from those LANDS below a LAND that are turned already. */
+        /** Turns that go on from those of the LANDS below a LAND, which stand in turned. */
         private int turnsFrom(Chart to, int land, int used) {
             if (land >= lands) {
                 return 1;
@@ -754,38 +791,6 @@ public final class ShownNot {
         }
     }
 
-    /** The ANSWERS of the MAP that was last opened; kept, as calls often ask of one MAP. */
-    private static final class AnswerBook {
-        private final int[] rows = new int[MOST_ROWS];
-        private final int[] paints = new int[MOST_LANDS];
-        private Chart chart;
-        int count;
-
-        void forget() {
-            chart = null;
-        }
-
-        void open(Chart wanted) {
-            if (chart == wanted) {
-                return;
-            }
-            chart = wanted;
-            count = 0;
-            int all = Math.min(rowsOf(wanted.lands), MOST_ROWS);
-            for (int row = 0; row < all; row++) {
-                unpack(row, wanted.lands, paints);
-                if (wanted.isPainted(paints)) {
-                    rows[count] = row;
-                    count++;
-                }
-            }
-        }
-
-        int rowAt(int i) {
-            return i >= 0 && i < count ? rows[i] : NONE;
-        }
-    }
-
     /** A SHOWING; judge has, at 7 * x + y, the openings that are BELIEVED. */
     private static final class Showing {
         final int[] judge = new int[MOST_LANDS * MOST_LANDS];
@@ -803,33 +808,36 @@ public final class ShownNot {
 
     /** The tape, and the reading of it. */
     private static final class Reader {
+        /** TOKENS beside signs and NAMES, which are their own bytes, and those that JudgeCode has. */
         private static final int END = 0;
         private static final int NO_TOKEN = 1;
-        private static final int WORD = 2;
+        private static final int WORD_SWAP = 10;
+        private static final int WORD_ONCE = 11;
+        private static final int WORD_ASK = 12;
+        private static final int WORD_JUDGE = 13;
+        private static final int WORD_BORDERS = 14;
+        private static final int WORD_PAIRS = 15;
+        private static final int WORD_LANDS = 16;
 
         private static final int CANT_STAND = 1;
         private static final int WRONG_NUMBER = 2;
         private static final int TOO_DEEP = 3;
         private static final int SECOND_TIME = 4;
 
-        private static final int SORT_SWAP = 0;
-        private static final int SORT_ONCE = 1;
-        private static final int SORT_ASK = 2;
-        private static final int SORT_JUDGE = 3;
-
         private static final String SIGNS = "<>=#+-*();";
+        private static final String NAMES = "abxy";
 
         private final int[] tape = new int[MOST_BYTES];
+        private final int[] tokens = new int[MOST_BYTES + 1];
+        private final int[] starts = new int[MOST_BYTES + 1];
+        private final int[] numbers = new int[MOST_BYTES + 1];
         private final JudgeCode code = new JudgeCode();
         int length;
         int faultKind = NONE;
         int faultPlace = NONE;
-        /** The TOKEN that is looked at: its sort (a sign: its byte), where it starts, where it ends. */
-        private int token;
-        private int start;
-        private int place;
-        private int number;
-        private int sortsRead;
+        private int tokenCount;
+        private int at;
+        private int clausesRead;
         private int swap;
         private int asks;
         private boolean once;
@@ -854,14 +862,13 @@ public final class ShownNot {
         boolean readShowing() {
             faultKind = 0;
             faultPlace = NONE;
-            sortsRead = 0;
+            clausesRead = 0;
             swap = 1;
             once = false;
             asks = ASK_BORDERS;
             code.clear();
-            place = 0;
-            step();
-            for (int clause = 0; clause < MOST_BYTES && token != END; clause++) {
+            splitTape();
+            for (int clause = 0; clause < MOST_BYTES && tokens[at] != END; clause++) {
                 if (!readClause()) {
                     return false;
                 }
@@ -871,51 +878,49 @@ public final class ShownNot {
 
         private boolean fail(int kind) {
             faultKind = kind;
-            faultPlace = start;
+            faultPlace = starts[at];
             return false;
         }
 
+        /** On to the next TOKEN; the end has none behind it. */
+        private void step() {
+            if (at < tokenCount) {
+                at++;
+            }
+        }
+
         private boolean readClause() {
-            int sort = sortOfClause();
-            if (sort == NONE) {
+            int word = tokens[at];
+            if (word < WORD_SWAP || word > WORD_JUDGE) {
                 return fail(CANT_STAND);
             }
-            if (hasBit(sortsRead, sort)) {
+            if (hasBit(clausesRead, word)) {
                 return fail(SECOND_TIME);
             }
-            sortsRead |= 1 << sort;
+            clausesRead |= 1 << word;
             step();
-            return readRest(sort) && readSign(';');
-        }
-
-        private int sortOfClause() {
-            if (isWord("swap")) {
-                return SORT_SWAP;
+            boolean sound = true;
+            switch (word) {
+                case WORD_SWAP: sound = readSwap(); break;
+                case WORD_ASK: sound = readAsk(); break;
+                case WORD_JUDGE: sound = readEither(); break;
+                default: once = true; break;
             }
-            if (isWord("once")) {
-                return SORT_ONCE;
+            if (!sound) {
+                return false;
             }
-            if (isWord("ask")) {
-                return SORT_ASK;
+            if (tokens[at] != ';') {
+                return fail(CANT_STAND);
             }
-            return isWord("judge") ? SORT_JUDGE : NONE;
-        }
-
-        private boolean readRest(int sort) {
-            switch (sort) {
-                case SORT_SWAP: return readSwap();
-                case SORT_ASK: return readAsk();
-                case SORT_JUDGE: return readEither();
-                default:
-                    once = true;
-                    return true;
-            }
+            step();
+            return true;
         }
 
         private boolean readSwap() {
-            if (token != JudgeCode.NUMBER) {
+            if (tokens[at] != JudgeCode.NUMBER) {
                 return fail(CANT_STAND);
             }
+            int number = numbers[at];
             if (number != 1 && number != 2 && number != 3 && number != 6) {
                 return fail(WRONG_NUMBER);
             }
@@ -925,15 +930,11 @@ public final class ShownNot {
         }
 
         private boolean readAsk() {
-            if (isWord("borders")) {
-                asks = ASK_BORDERS;
-            } else if (isWord("pairs")) {
-                asks = ASK_PAIRS;
-            } else if (isWord("lands")) {
-                asks = ASK_LANDS;
-            } else {
+            int word = tokens[at];
+            if (word < WORD_BORDERS || word > WORD_LANDS) {
                 return fail(CANT_STAND);
             }
+            asks = word - WORD_BORDERS + ASK_BORDERS;
             step();
             return true;
         }
@@ -942,7 +943,7 @@ public final class ShownNot {
             if (!readBoth()) {
                 return false;
             }
-            for (int more = 0; more < MOST_BYTES && isWord("or"); more++) {
+            for (int more = 0; more < MOST_BYTES && tokens[at] == JudgeCode.OR; more++) {
                 step();
                 if (!readBoth()) {
                     return false;
@@ -956,7 +957,7 @@ public final class ShownNot {
             if (!readAsked(0)) {
                 return false;
             }
-            for (int more = 0; more < MOST_BYTES && isWord("and"); more++) {
+            for (int more = 0; more < MOST_BYTES && tokens[at] == JudgeCode.AND; more++) {
                 step();
                 if (!readAsked(0)) {
                     return false;
@@ -968,7 +969,7 @@ public final class ShownNot {
 
         /** open: how many of ( not and - are open around it. */
         private boolean readAsked(int open) {
-            if (isWord("not")) {
+            if (tokens[at] == JudgeCode.NOT) {
                 if (open >= MOST_OPEN) {
                     return fail(TOO_DEEP);
                 }
@@ -982,7 +983,7 @@ public final class ShownNot {
             if (!readSum(open)) {
                 return false;
             }
-            int compared = token;
+            int compared = tokens[at];
             if (!JudgeCode.isComparison(compared)) {
                 return fail(CANT_STAND);
             }
@@ -998,8 +999,8 @@ public final class ShownNot {
             if (!readProduct(open)) {
                 return false;
             }
-            for (int more = 0; more < MOST_BYTES && (token == '+' || token == '-'); more++) {
-                int sign = token;
+            for (int more = 0; more < MOST_BYTES && (tokens[at] == '+' || tokens[at] == '-'); more++) {
+                int sign = tokens[at];
                 step();
                 if (!readProduct(open)) {
                     return false;
@@ -1013,7 +1014,7 @@ public final class ShownNot {
             if (!readOne(open)) {
                 return false;
             }
-            for (int more = 0; more < MOST_BYTES && token == '*'; more++) {
+            for (int more = 0; more < MOST_BYTES && tokens[at] == '*'; more++) {
                 step();
                 if (!readOne(open)) {
                     return false;
@@ -1024,19 +1025,17 @@ public final class ShownNot {
         }
 
         private boolean readOne(int open) {
+            int token = tokens[at];
             if (token == '(' || token == '-') {
                 return readOpened(open);
             }
-            if (token == JudgeCode.NUMBER) {
-                if (number > HIGHEST_NUMBER) {
-                    return fail(WRONG_NUMBER);
-                }
-                code.add(JudgeCode.NUMBER, number);
-            } else if (isWord("a") || isWord("b") || isWord("x") || isWord("y")) {
-                code.add(tape[start], 0);
-            } else {
+            if (!JudgeCode.isValue(token)) {
                 return fail(CANT_STAND);
             }
+            if (token == JudgeCode.NUMBER && numbers[at] > HIGHEST_NUMBER) {
+                return fail(WRONG_NUMBER);
+            }
+            code.add(token, numbers[at]);
             step();
             return true;
         }
@@ -1045,88 +1044,122 @@ public final class ShownNot {
             if (open >= MOST_OPEN) {
                 return fail(TOO_DEEP);
             }
-            boolean less = token == '-';
+            boolean less = tokens[at] == '-';
             step();
-            if (!less) {
-                return readSum(open + 1) && readSign(')');
+            if (less) {
+                if (!readOne(open + 1)) {
+                    return false;
+                }
+                code.add(JudgeCode.LESS, 0);
+                return true;
             }
-            if (!readOne(open + 1)) {
+            if (!readSum(open + 1)) {
                 return false;
             }
-            code.add(JudgeCode.LESS, 0);
-            return true;
-        }
-
-        private boolean readSign(int sign) {
-            if (token != sign) {
+            if (tokens[at] != ')') {
                 return fail(CANT_STAND);
             }
             step();
             return true;
         }
 
-        /** On to the next TOKEN. */
-        private void step() {
-            start = length;
-            for (int at = place; at < length; at++) {
-                if (tape[at] != ' ' && tape[at] != '\n') {
-                    start = at;
-                    break;
+        /** All TOKENS of the tape, and the end behind them. */
+        private void splitTape() {
+            tokenCount = 0;
+            at = 0;
+            int place = 0;
+            for (int more = 0; more < MOST_BYTES && place < length; more++) {
+                if (tape[place] == ' ' || tape[place] == '\n') {
+                    place++;
+                } else {
+                    starts[tokenCount] = place;
+                    numbers[tokenCount] = 0;
+                    place = splitToken(place);
+                    tokenCount++;
                 }
             }
-            if (start >= length) {
-                token = END;
-                place = length;
-            } else if (isLetter(start)) {
-                stepWord();
-            } else if (isDigit(start)) {
-                stepNumber();
-            } else {
-                stepSign();
-            }
+            tokens[tokenCount] = END;
+            starts[tokenCount] = length;
         }
 
-        private void stepWord() {
-            token = WORD;
-            place = start;
-            while (place < length && isLetter(place)) {
-                place++;
+        /** Takes the TOKEN that starts here; where it ends. */
+        private int splitToken(int start) {
+            if (isLetter(tape[start])) {
+                return splitWord(start);
             }
-        }
-
-        private void stepNumber() {
-            token = JudgeCode.NUMBER;
-            place = start;
-            number = 0;
-            while (place < length && isDigit(place)) {
-                number = Math.min(number * 10 + tape[place] - '0', HIGHEST_NUMBER + 1);
-                place++;
+            if (isDigit(tape[start])) {
+                return splitNumber(start);
             }
-        }
-
-        private void stepSign() {
             int first = tape[start];
-            boolean like = start + 1 < length && tape[start + 1] == '=';
-            if (like && (first == '<' || first == '>')) {
-                token = first == '<' ? JudgeCode.NOT_ABOVE : JudgeCode.NOT_BELOW;
-                place = start + 2;
-                return;
+            if ((first == '<' || first == '>') && start + 1 < length && tape[start + 1] == '=') {
+                tokens[tokenCount] = first == '<' ? JudgeCode.NOT_ABOVE : JudgeCode.NOT_BELOW;
+                return start + 2;
             }
-            token = SIGNS.indexOf((char) first) >= 0 ? first : NO_TOKEN;
-            place = start + 1;
+            tokens[tokenCount] = SIGNS.indexOf((char) first) >= 0 ? first : NO_TOKEN;
+            return start + 1;
         }
 
-        private boolean isLetter(int at) {
-            int sign = tape[at];
-            return sign >= 'a' && sign <= 'z' || sign >= 'A' && sign <= 'Z';
+        private int splitWord(int start) {
+            int end = start;
+            while (end < length && isLetter(tape[end])) {
+                end++;
+            }
+            tokens[tokenCount] = wordAt(start, end);
+            return end;
         }
 
-        private boolean isDigit(int at) {
-            return tape[at] >= '0' && tape[at] <= '9';
+        private int splitNumber(int start) {
+            int end = start;
+            int number = 0;
+            while (end < length && isDigit(tape[end])) {
+                number = Math.min(number * 10 + tape[end] - '0', HIGHEST_NUMBER + 1);
+                end++;
+            }
+            tokens[tokenCount] = JudgeCode.NUMBER;
+            numbers[tokenCount] = number;
+            return end;
         }
 
-        private boolean isWord(String word) {
-            if (token != WORD || place - start != word.length()) {
+        private int wordAt(int start, int end) {
+            if (end - start == 1) {
+                return NAMES.indexOf((char) tape[start]) >= 0 ? tape[start] : NO_TOKEN;
+            }
+            if (spells(start, end, "or")) {
+                return JudgeCode.OR;
+            }
+            if (spells(start, end, "and")) {
+                return JudgeCode.AND;
+            }
+            if (spells(start, end, "not")) {
+                return JudgeCode.NOT;
+            }
+            return wordOfClause(start, end);
+        }
+
+        private int wordOfClause(int start, int end) {
+            if (spells(start, end, "swap")) {
+                return WORD_SWAP;
+            }
+            if (spells(start, end, "once")) {
+                return WORD_ONCE;
+            }
+            if (spells(start, end, "ask")) {
+                return WORD_ASK;
+            }
+            if (spells(start, end, "judge")) {
+                return WORD_JUDGE;
+            }
+            if (spells(start, end, "borders")) {
+                return WORD_BORDERS;
+            }
+            if (spells(start, end, "pairs")) {
+                return WORD_PAIRS;
+            }
+            return spells(start, end, "lands") ? WORD_LANDS : NO_TOKEN;
+        }
+
+        private boolean spells(int start, int end, String word) {
+            if (end - start != word.length()) {
                 return false;
             }
             for (int i = 0; i < word.length(); i++) {
@@ -1136,11 +1169,19 @@ public final class ShownNot {
             }
             return true;
         }
+
+        private static boolean isLetter(int sign) {
+            return sign >= 'a' && sign <= 'z' || sign >= 'A' && sign <= 'Z';
+        }
+
+        private static boolean isDigit(int sign) {
+            return sign >= '0' && sign <= '9';
+        }
     }
 
     /** What judge says, as steps on a stack: what is joined comes ahead of what joins it. */
     private static final class JudgeCode {
-        static final int HIGHEST = 1000000000;
+        private static final int HIGHEST = 1000000000;
         static final int NUMBER = 3;
         static final int NOT_ABOVE = 4;
         static final int NOT_BELOW = 5;
@@ -1205,8 +1246,10 @@ public final class ShownNot {
                         stack[top - 1] = step == LESS ? -stack[top - 1] : 1 - stack[top - 1];
                     }
                 } else if (isValue(step)) {
-                    stack[top] = valueOf(step, numbers[at]);
-                    top++;
+                    if (top < MOST_BYTES) {
+                        stack[top] = valueOf(step, numbers[at]);
+                        top++;
+                    }
                 } else if (top > 1) {
                     top--;
                     stack[top - 1] = joined(step, stack[top - 1], stack[top]);
@@ -1215,7 +1258,7 @@ public final class ShownNot {
             return top > 0 && stack[0] != 0;
         }
 
-        private static boolean isValue(int step) {
+        static boolean isValue(int step) {
             return step == NUMBER || step == 'a' || step == 'b' || step == 'x' || step == 'y';
         }
 
@@ -1252,15 +1295,14 @@ public final class ShownNot {
 
     /** A SHOWING on a MAP, and the first of what was looked for there. */
     private static final class Play {
-        private final AnswerBook book;
         private final int[] xs = new int[MOST_ASKINGS];
         private final int[] ys = new int[MOST_ASKINGS];
+        /** For each ASKING the openings that are BELIEVED, a bit each. */
         private final int[] judged = new int[MOST_ASKINGS];
-        private final int[] paints = new int[MOST_LANDS];
-        private final int[] firstPaints = new int[MOST_LANDS];
-        /** For an opening, or for two (9 * first + second), the lowest that SWAPS make of it. */
+        /** For two openings (9 * first + second) the lowest two that SWAPS make of them. */
         private final int[] lowest = new int[OPENINGS * OPENINGS];
-        private final int[] refusals = new int[MOST_ASKINGS * OPENINGS];
+        /** For each ASKING and opening the SWAPS by which it isn't BELIEVED, a bit each. */
+        private final int[] refusing = new int[MOST_ASKINGS * OPENINGS];
         Chart chart;
         private int drawn;
         private boolean once;
@@ -1273,10 +1315,6 @@ public final class ShownNot {
         int foundSecond;
         int foundSwap;
         int foundTry;
-
-        Play(AnswerBook answers) {
-            book = answers;
-        }
 
         void begin(Chart map, int swap, boolean drawnOnce, int asks, int[] judge) {
             chart = map;
@@ -1319,91 +1357,73 @@ public final class ShownNot {
             foundTry = NONE;
         }
 
-        boolean believes(int k, int a, int b) {
-            return hasBit(judged[k], a * PAINTS + b);
-        }
-
-        private static int openingOf(int[] row, int x, int y) {
-            return row[x] * PAINTS + row[y];
+        boolean believes(int k, int opening) {
+            return hasBit(judged[k], opening);
         }
 
         /** RIGHT; the first that isn't BELIEVED is found. */
         int countRefused() {
             forgetFound();
-            book.open(chart);
-            fillRefusals();
+            fillRefusing();
+            int answers = chart.countAnswers();
             int count = 0;
-            for (int i = 0; i < book.count; i++) {
-                unpack(book.rowAt(i), chart.lands, paints);
+            for (int i = 0; i < answers; i++) {
+                int pack = chart.answerPack(i);
                 for (int k = 0; k < askings; k++) {
-                    int opening = openingOf(paints, xs[k], ys[k]);
-                    int refused = refusals[k * OPENINGS + opening];
-                    if (refused > 0 && count == 0) {
+                    int swaps = refusing[k * OPENINGS + openingOf(pack, xs[k], ys[k])];
+                    if (swaps != 0 && count == 0) {
                         foundAnswer = i;
                         foundAsking = k;
-                        foundSwap = firstRefused(k, opening);
+                        foundSwap = Integer.numberOfTrailingZeros(swaps);
                     }
-                    count += refused;
+                    count += Integer.bitCount(swaps);
                 }
             }
             return count;
         }
 
-        private void fillRefusals() {
+        private void fillRefusing() {
             for (int k = 0; k < askings; k++) {
                 for (int opening = 0; opening < OPENINGS; opening++) {
-                    refusals[k * OPENINGS + opening] = countRefusingSwaps(k, opening);
+                    int swaps = 0;
+                    for (int swap = 0; swap < SWAPS; swap++) {
+                        if (!believes(k, swapOpening(opening, swap))) {
+                            swaps |= 1 << swap;
+                        }
+                    }
+                    refusing[k * OPENINGS + opening] = swaps & drawn;
                 }
             }
-        }
-
-        private int countRefusingSwaps(int k, int opening) {
-            int count = 0;
-            for (int swap = 0; swap < SWAPS; swap++) {
-                count += oneIf(isRefused(k, opening, swap));
-            }
-            return count;
-        }
-
-        private boolean isRefused(int k, int opening, int swap) {
-            return hasBit(drawn, swap) && !hasBit(judged[k], swapOpening(opening, swap));
-        }
-
-        private int firstRefused(int k, int opening) {
-            for (int swap = 0; swap < SWAPS; swap++) {
-                if (isRefused(k, opening, swap)) {
-                    return swap;
-                }
-            }
-            return NONE;
         }
 
         void findCheat() {
             forgetFound();
             cheatCount = NONE;
             int rows = rowsOf(chart.lands);
-            for (int row = 0; row < rows && cheatCount < askings; row++) {
-                unpack(row, chart.lands, paints);
-                int count = 0;
-                for (int k = 0; k < askings; k++) {
-                    count += judged[k] >> openingOf(paints, xs[k], ys[k]) & 1;
-                }
+            for (int number = 0; number < rows && cheatCount < askings; number++) {
+                int count = countBelieved(packOf(number, chart.lands));
                 if (count > cheatCount) {
                     cheatCount = count;
-                    foundRow = row;
+                    foundRow = number;
                 }
             }
+        }
+
+        private int countBelieved(int pack) {
+            int count = 0;
+            for (int k = 0; k < askings; k++) {
+                count += judged[k] >> openingOf(pack, xs[k], ys[k]) & 1;
+            }
+            return count;
         }
 
         /** TELLS: whether it does; ASKINGS and ANSWER are found. */
         boolean findTelling(int n) {
             forgetFound();
-            book.open(chart);
-            fillLowest();
-            if (book.count == 0) {
+            if (chart.countAnswers() == 0) {
                 return false;
             }
-            unpack(book.rowAt(0), chart.lands, firstPaints);
+            fillLowest();
             if (n == 2 && once) {
                 return findTellingPair();
             }
@@ -1452,47 +1472,46 @@ public final class ShownNot {
 
         /** The first ANSWER that, by two ASKINGS of one drawing, isn't opened as ANSWER 0 is; NONE. */
         private int firstTold(int k, int second) {
-            int first = lowestOpened(firstPaints, k, second);
-            for (int i = 1; i < book.count; i++) {
-                unpack(book.rowAt(i), chart.lands, paints);
-                if (lowestOpened(paints, k, second) != first) {
+            int answers = chart.countAnswers();
+            int lowestOfFirst = NONE;
+            for (int i = 0; i < answers; i++) {
+                int pack = chart.answerPack(i);
+                int opening = openingOf(pack, xs[k], ys[k]);
+                int made = lowest[opening * OPENINGS + openingOf(pack, xs[second], ys[second])];
+                if (i == 0) {
+                    lowestOfFirst = made;
+                } else if (made != lowestOfFirst) {
                     return i;
                 }
             }
             return NONE;
         }
 
-        private int lowestOpened(int[] row, int k, int second) {
-            int opening = openingOf(row, xs[k], ys[k]);
-            return lowest[opening * OPENINGS + openingOf(row, xs[second], ys[second])];
-        }
-
-        long weigh(Sightings sightings, int row) {
-            unpack(row, chart.lands, paints);
-            return sightings.weigh(paints, chart.lands, drawn, once);
+        long weigh(Sightings sightings, int pack) {
+            return sightings.waysToSee(pack, chart.lands, drawn, once);
         }
 
         /** How many are POSSIBLE; the lowest is found, and whether all are one but for SWAPS. */
         int findPossible(Sightings sightings) {
             forgetFound();
             allAlike = true;
-            book.open(chart);
+            int answers = chart.countAnswers();
             int count = 0;
-            for (int i = 0; i < book.count; i++) {
-                if (weigh(sightings, book.rowAt(i)) > 0) {
+            for (int i = 0; i < answers; i++) {
+                if (weigh(sightings, chart.answerPack(i)) > 0) {
                     if (count == 0) {
                         foundAnswer = i;
                     }
-                    allAlike = allAlike && isSwapOf(book.rowAt(i), book.rowAt(foundAnswer));
+                    allAlike = allAlike && isSwapOf(chart.answerRow(i), chart.answerRow(foundAnswer));
                     count++;
                 }
             }
             return count;
         }
 
-        private boolean isSwapOf(int row, int other) {
+        private boolean isSwapOf(int one, int other) {
             for (int swap = 0; swap < SWAPS; swap++) {
-                if (swapRow(other, chart.lands, swap) == row) {
+                if (swapRow(other, chart.lands, swap) == one) {
                     return true;
                 }
             }
@@ -1503,33 +1522,33 @@ public final class ShownNot {
         void findFalse(int g, int tries) {
             forgetFound();
             int rows = rowsOf(chart.lands);
-            for (int row = 0; row < rows && foundRow == NONE; row++) {
-                unpack(row, chart.lands, paints);
-                if (!chart.isPainted(paints)) {
-                    tryFalse(row, g, tries);
+            for (int number = 0; number < rows && foundRow == NONE; number++) {
+                int pack = packOf(number, chart.lands);
+                if (!chart.isPainted(pack) && isFalseBelieved(pack, g, tries)) {
+                    foundRow = number;
                 }
             }
         }
 
-        private void tryFalse(int row, int g, int tries) {
+        private boolean isFalseBelieved(int pack, int g, int tries) {
             if (askings == 0) {
-                return;
+                return false;
             }
             int sum = 0;
             for (int land = 0; land < chart.lands; land++) {
-                sum += (land + 1) * paints[land] * g;
+                sum += (land + 1) * paintIn(pack, land) * g;
             }
             // After as many tries as there are ASKINGS the same ones come again.
             int different = Math.min(tries, askings);
             for (int t = 0; t < different; t++) {
                 int k = (sum + t) % askings;
-                if (believes(k, paints[xs[k]], paints[ys[k]])) {
-                    foundRow = row;
+                if (believes(k, openingOf(pack, xs[k], ys[k]))) {
                     foundTry = t;
                     foundAsking = k;
-                    return;
+                    return true;
                 }
             }
+            return false;
         }
     }
 
@@ -1561,13 +1580,13 @@ public final class ShownNot {
             return count;
         }
 
-        long weigh(int[] row, int lands, int drawn, boolean once) {
+        long waysToSee(int pack, int lands, int drawn, boolean once) {
             long ways = 1;
             int all = drawn;
             int ofTheMap = (1 << lands) - 1;
-            for (int night = 0; night < MOST_NIGHTS; night++) {
+            for (int night = 0; night < MOST_NIGHTS && ways > 0; night++) {
                 if ((seen[night] & ofTheMap) != 0) {
-                    int making = swapsMaking(night, row, lands, drawn);
+                    int making = swapsMaking(night, pack, lands, drawn);
                     ways *= Integer.bitCount(making);
                     all &= making;
                 }
@@ -1576,11 +1595,11 @@ public final class ShownNot {
         }
 
         /** Of the SWAPS drawn those that make a night as it was SEEN. */
-        private int swapsMaking(int night, int[] row, int lands, int drawn) {
+        private int swapsMaking(int night, int pack, int lands, int drawn) {
             int making = drawn;
             for (int land = 0; land < lands; land++) {
                 if (hasBit(seen[night], land)) {
-                    making &= SWAPS_TAKING[row[land] * PAINTS + paints[night * MOST_LANDS + land]];
+                    making &= SWAPS_TAKING[paintIn(pack, land) * PAINTS + paints[night * MOST_LANDS + land]];
                 }
             }
             return making;
@@ -1589,19 +1608,19 @@ public final class ShownNot {
 
     /** A ROW in boxes, and what was PULLED. */
     private static final class Boxes {
-        final int[] paints = new int[MOST_LANDS];
         int map = NONE;
+        int pack;
         private int seen;
 
-        void lay(int number, int row, int lands) {
+        void lay(int number, int laid) {
             map = number;
+            pack = laid;
             seen = 0;
-            unpack(row, lands, paints);
         }
 
         void become(Boxes from) {
-            System.arraycopy(from.paints, 0, paints, 0, paints.length);
             map = from.map;
+            pack = from.pack;
             seen = from.seen;
         }
 
@@ -1615,7 +1634,7 @@ public final class ShownNot {
         }
 
         int seenOf(int land) {
-            return hasBit(seen, land) ? paints[land] : NONE;
+            return hasBit(seen, land) ? paintIn(pack, land) : NONE;
         }
     }
 
@@ -1664,20 +1683,33 @@ public final class ShownNot {
 
         /** DOUBLED: 0 the PAINT, 1 the DRAW, 2 the other PAINT, 3 its DRAW; NONE if it HOLDS. */
         int doubled(int part) {
-            for (int one = 0; one < PAINTS * draws; one++) {
-                for (int other = 0; other < PAINTS * draws; other++) {
-                    int paint = one / draws;
-                    int otherPaint = other / draws;
-                    int draw = one % draws;
-                    int otherDraw = other % draws;
-                    if (paint != otherPaint && shown(paint, draw) == shown(otherPaint, otherDraw)) {
-                        switch (part) {
-                            case 0: return paint;
-                            case 1: return draw;
-                            case 2: return otherPaint;
-                            default: return otherDraw;
+            for (int paint = 0; paint < PAINTS; paint++) {
+                for (int draw = 0; draw < draws; draw++) {
+                    int number = shown(paint, draw);
+                    for (int other = 0; other < PAINTS; other++) {
+                        int otherDraw = firstShowing(other, number);
+                        if (other != paint && otherDraw != NONE) {
+                            return chosen(part, paint, draw, other, otherDraw);
                         }
                     }
+                }
+            }
+            return NONE;
+        }
+
+        private static int chosen(int part, int paint, int draw, int other, int otherDraw) {
+            switch (part) {
+                case 0: return paint;
+                case 1: return draw;
+                case 2: return other;
+                default: return otherDraw;
+            }
+        }
+
+        private int firstShowing(int paint, int number) {
+            for (int draw = 0; draw < draws; draw++) {
+                if (shown(paint, draw) == number) {
+                    return draw;
                 }
             }
             return NONE;
@@ -1803,7 +1835,7 @@ public final class ShownNot {
 
     /** A whole number without a bound that nights could reach: six digits a place, lowest first. */
     private static final class Power {
-        /** 20 of 21 ASKINGS, the best odds of a cheat, need 426 nights for 1 in 1000000000. */
+        /** 20 of 21 ASKINGS, the best odds of a cheat who may fail, need 425 nights for 1 in 1000000000. */
         static final int MOST_TIMES = 500;
         private static final int BASE = 1000000;
         private static final int MOST_PLACES = 120;
