@@ -520,7 +520,7 @@ public final class ShownNot {
         return swap >= 0 && swap < SWAPS;
     }
 
-    /** The SWAPS that may be drawn, a bit each. */
+    /** The SWAPS that may be drawn (0; 0 and 1; 0, 2 and 3; all), a bit each: they undo one another. */
     private static int drawnSwaps(int swap) {
         switch (swap) {
             case 2: return 3;
@@ -815,6 +815,7 @@ public final class ShownNot {
         private static final int WORD_ONCE = 11;
         private static final int WORD_ASK = 12;
         private static final int WORD_JUDGE = 13;
+        /** The three of ask stand in the order of ASK_BORDERS, ASK_PAIRS, ASK_LANDS. */
         private static final int WORD_BORDERS = 14;
         private static final int WORD_PAIRS = 15;
         private static final int WORD_LANDS = 16;
@@ -934,7 +935,7 @@ public final class ShownNot {
             if (word < WORD_BORDERS || word > WORD_LANDS) {
                 return fail(CANT_STAND);
             }
-            asks = word - WORD_BORDERS + ASK_BORDERS;
+            asks = word - WORD_BORDERS;
             step();
             return true;
         }
@@ -1321,19 +1322,15 @@ public final class ShownNot {
             drawn = drawnSwaps(swap);
             once = drawnOnce;
             askings = 0;
-            if (asks == ASK_BORDERS) {
-                for (int b = 0; b < map.borders; b++) {
-                    addAsking(map.ones[b], map.others[b], judge);
-                }
-                return;
+            for (int b = 0; asks == ASK_BORDERS && b < map.borders; b++) {
+                addAsking(map.ones[b], map.others[b], judge);
             }
-            for (int x = 0; x < map.lands; x++) {
-                if (asks == ASK_LANDS) {
-                    addAsking(x, x, judge);
-                } else {
-                    for (int y = x + 1; y < map.lands; y++) {
-                        addAsking(x, y, judge);
-                    }
+            for (int x = 0; asks == ASK_LANDS && x < map.lands; x++) {
+                addAsking(x, x, judge);
+            }
+            for (int x = 0; asks == ASK_PAIRS && x < map.lands; x++) {
+                for (int y = x + 1; y < map.lands; y++) {
+                    addAsking(x, y, judge);
                 }
             }
         }

@@ -106,7 +106,7 @@ public final class ImageTest {
 
     private static void aboutOthers() {
         ShownNot x = full();
-        for (int what : new int[] {-1, 6, 7, 8, 9, 12, 13, 14, 19, 22, 24, 29, 32, 38, 39, 42, 49, 52, 59, 60, 61,
+        for (int what : new int[] {-1, -10, -20, -30, 6, 7, 8, 9, 12, 13, 14, 19, 22, 24, 29, 32, 38, 39, 42, 49, 52, 59, 60, 61,
             100, Integer.MIN_VALUE, Integer.MAX_VALUE}) {
             Check.due("about(" + what + ")", x.about(what), -1);
         }

@@ -40,6 +40,12 @@ public final class LockTest {
         // 0 0; 1 2; 2 4 of 5: paint 0 is alone; 2 is DRAW 1 of 1 and DRAW 0 of 2.
         x.lock(1, 0, 1, 5, 2);
         locks(x, 0, 0, 1, 1, 2, 0, 2, 2, 1);
+        // 0; 2; 0 of 4: PAINTS 0 and 2 are alike, PAINT 1 isn't.
+        x.lock(2, 0, 0, 4, 1);
+        locks(x, 0, 0, 0, 0, 2, 0, 1, 0, 1);
+        // All DRAWS of all PAINTS show 0.
+        x.lock(0, 0, 0, 1, 32);
+        locks(x, 0, 1, 0, 0, 1, 0, 0, 0, 0);
         Check.due("locks(9)", x.locks(9), -1);
         Check.due("locks(-1)", x.locks(-1), -1);
     }
@@ -58,6 +64,7 @@ public final class LockTest {
         Check.show(x, "judge a#b;");
         Check.show(x, "judge 1=2;");
         Check.show(x, "ask lands;judge a=2 and x=1;");
+        Check.show(x, "");
         // 000 is never BELIEVED; 001 by BORDER 1, which is 3 mod 2.
         alone(x, 0, 1, 1, 1, 0, 1);
         // With G 0 it is BORDER 0, so 001 needs a second try.
@@ -65,6 +72,8 @@ public final class LockTest {
         // With one try it is 011 by BORDER 0.
         alone(x, 0, 0, 1, 4, 0, 0);
         alone(x, 1, 1, 100, -1, -1, -1);
+        // What is always BELIEVED is so by the lowest ROW.
+        alone(x, 3, 99, 100, 0, 0, 0);
         // 020 is an ANSWER; 022 has (2 * 2 + 3 * 2) mod 3 = LAND 1 at try 0.
         alone(x, 2, 1, 1, 8, 0, 1);
         // With G 0 LAND 1 is the second try.
@@ -79,7 +88,7 @@ public final class LockTest {
         Check.due("n 100", x.alone(0, 0, 99, 100, 0), 1);
         Check.due("what 3", x.alone(0, 0, 1, 1, 3), -1);
         Check.due("what -1", x.alone(0, 0, 1, 1, -1), -1);
-        Check.due("no such SHOWING", x.alone(3, 0, 1, 1, 0), -1);
+        Check.due("no such SHOWING", x.alone(4, 0, 1, 1, 0), -1);
         Check.due("no such MAP", x.alone(0, 2, 1, 1, 0), -1);
     }
 

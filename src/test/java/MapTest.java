@@ -97,6 +97,7 @@ public final class MapTest {
         for (int swap = 0; swap < 6; swap++) {
             Check.due("0 1 2 by SWAP " + swap, x.swapped(0, 5, swap), made[swap]);
         }
+        Check.due("the lowest ROW", x.swapped(0, 0, 1), 13);
         Check.due("the highest ROW", x.swapped(0, 26, 5), 0);
         Check.due("a ROW too high", x.swapped(0, 27, 0), -1);
         Check.due("a ROW below 0", x.swapped(0, -1, 0), -1);

@@ -47,6 +47,10 @@ public final class SeenTest {
         Check.due("two nights, swap 1", x.weight(2, 0, 0), 0);
         x.see(3, 1, 0);
         Check.due("another PAINT, once", x.weight(1, 0, 0), 1);
+        x.see(3, 3, 2);
+        x.see(0, 4, 1);
+        Check.due("LANDS behind the MAP's in the same nights", x.weight(1, 0, 0), 1);
+        Check.due("they are nothing anew", x.weight(0, 0, 0), 4);
         x.see(3, 1, 2);
         x.see(0, 0, 0);
         Check.due("0 then 2 by SWAP 0, ANSWER 020", x.weight(2, 0, 2), 1);

@@ -121,6 +121,16 @@ public final class TextTest {
         faultOf("judge aa=b;", 1, 6);
         faultOf("judge A=b;", 1, 6);
         faultOf("judge c=b;", 1, 6);
+        faultOf("judge az=b;", 1, 6);
+        faultOf("judge aZ=b;", 1, 6);
+        faultOf("judge aA=b;", 1, 6);
+        faultOf("judge a{=b;", 1, 7);
+        faultOf("judge a[=b;", 1, 7);
+        faultOf("judge a@=b;", 1, 7);
+        faultOf("judge 1:=b;", 1, 7);
+        faultOf("judge a<=", 1, 9);
+        faultOf("judge a>=", 1, 9);
+        faultOf("judge a>", 1, 8);
         faultOf("judge or=b;", 1, 6);
         faultOf("judge a not=b;", 1, 8);
         faultOf("judge (a=b);", 1, 8);
