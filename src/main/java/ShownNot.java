@@ -83,7 +83,8 @@ public final class ShownNot {
         if (chart == null) {
             return NONE;
         }
-        return i == NONE ? chart.countAnswers() : chart.answerRow(i);
+        chart.findAnswers();
+        return i == NONE ? chart.answers : chart.answerRow(i);
     }
 
     public int swapped(int map, int row, int swap) {
@@ -319,6 +320,8 @@ public final class ShownNot {
         if (first.borders != second.borders || first.borders == 0) {
             return NONE;
         }
+        first.findAnswers();
+        second.findAnswers();
         int pack = first.answerPack(i);
         int otherPack = second.answerPack(j);
         if (pack == NONE || otherPack == NONE) {
@@ -360,7 +363,9 @@ public final class ShownNot {
         if (told == null || painted == null || bare == null || what < 0 || what > 4) {
             return NONE;
         }
-        if (painted.countAnswers() == 0 || bare.countAnswers() > 0) {
+        painted.findAnswers();
+        bare.findAnswers();
+        if (painted.answers == 0 || bare.answers > 0) {
             return NONE;
         }
         int mending = findMending(told, painted, bare);
@@ -421,6 +426,7 @@ public final class ShownNot {
         if (told == null || chart == null) {
             return false;
         }
+        chart.findAnswers();
         play.begin(chart, told.swap, told.once, told.asks, told.judge);
         return true;
     }
@@ -636,7 +642,7 @@ public final class ShownNot {
         /** The ROWS of the ANSWERS, made when first wanted: a MAP of the image never needs them. */
         private int[] answerRows;
         private int[] answerPacks;
-        private int answers;
+        int answers;
         private boolean answersStand;
 
         void begin(int count) {
@@ -687,14 +693,11 @@ public final class ShownNot {
             return true;
         }
 
-        int countAnswers() {
-            if (!answersStand) {
-                findAnswers();
+        /** Finds the ANSWERS, unless they stand. Whoever reads answers, answerRow, answerPack calls it ahead. */
+        void findAnswers() {
+            if (answersStand) {
+                return;
             }
-            return answers;
-        }
-
-        private void findAnswers() {
             if (answerRows == null || answerPacks == null) {
                 answerRows = new int[MOST_ROWS];
                 answerPacks = new int[MOST_ROWS];
@@ -713,11 +716,11 @@ public final class ShownNot {
         }
 
         int answerRow(int i) {
-            return i >= 0 && i < countAnswers() ? answerRows[i] : NONE;
+            return answersStand && i >= 0 && i < answers ? answerRows[i] : NONE;
         }
 
         int answerPack(int i) {
-            return i >= 0 && i < countAnswers() ? answerPacks[i] : NONE;
+            return answersStand && i >= 0 && i < answers ? answerPacks[i] : NONE;
         }
 
         /** What a BORDER may be opened as, if these paints are swapped, a bit for each opening. */
@@ -1134,10 +1137,6 @@ public final class ShownNot {
             if (spells(start, end, "not")) {
                 return JudgeCode.NOT;
             }
-            return wordOfClause(start, end);
-        }
-
-        private int wordOfClause(int start, int end) {
             if (spells(start, end, "swap")) {
                 return WORD_SWAP;
             }
@@ -1362,9 +1361,8 @@ public final class ShownNot {
         int countRefused() {
             forgetFound();
             fillRefusing();
-            int answers = chart.countAnswers();
             int count = 0;
-            for (int i = 0; i < answers; i++) {
+            for (int i = 0; i < chart.answers; i++) {
                 int pack = chart.answerPack(i);
                 for (int k = 0; k < askings; k++) {
                     int swaps = refusing[k * OPENINGS + openingOf(pack, xs[k], ys[k])];
@@ -1417,9 +1415,6 @@ public final class ShownNot {
         /** TELLS: whether it does; ASKINGS and ANSWER are found. */
         boolean findTelling(int n) {
             forgetFound();
-            if (chart.countAnswers() == 0) {
-                return false;
-            }
             fillLowest();
             if (n == 2 && once) {
                 return findTellingPair();
@@ -1469,9 +1464,8 @@ public final class ShownNot {
 
         /** The first ANSWER that, by two ASKINGS of one drawing, isn't opened as ANSWER 0 is; NONE. */
         private int firstTold(int k, int second) {
-            int answers = chart.countAnswers();
             int lowestOfFirst = NONE;
-            for (int i = 0; i < answers; i++) {
+            for (int i = 0; i < chart.answers; i++) {
                 int pack = chart.answerPack(i);
                 int opening = openingOf(pack, xs[k], ys[k]);
                 int made = lowest[opening * OPENINGS + openingOf(pack, xs[second], ys[second])];
@@ -1492,9 +1486,8 @@ public final class ShownNot {
         int findPossible(Sightings sightings) {
             forgetFound();
             allAlike = true;
-            int answers = chart.countAnswers();
             int count = 0;
-            for (int i = 0; i < answers; i++) {
+            for (int i = 0; i < chart.answers; i++) {
                 if (weigh(sightings, chart.answerPack(i)) > 0) {
                     if (count == 0) {
                         foundAnswer = i;
