@@ -136,7 +136,7 @@ public final class EdgesTest {
             String other = i < got.size() ? got.get(i) : "nothing";
             Check.due(where + call + " leaves " + one + ", and not " + other, one.equals(other), true);
         }
-        make(call);
+        due(call, want);
     }
 
     /** Each argument is the least and the greatest int once. */
