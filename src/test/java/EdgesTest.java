@@ -9,12 +9,15 @@ import java.util.stream.Stream;
 /**
  * The boundary cases, sentence by sentence: each file under src/test/edges names promises, quotes
  * their sentences, and tells runs of calls that hold just if the sentence does. README.md tells how
- * a row is written.
+ * a row is written. Each answer that a row asks for is asked of the Oracle too, so that none is there
+ * just because the class answers so.
  */
 public final class EdgesTest {
     private final Document document;
     private String where = "";
     private Run run = new Run();
+    private Run oracle = Run.ofOracle();
+    private long saidByOracle = 0;
     /** The calls made on the object so far, so that they can be made again on others. */
     private List<String> made = new ArrayList<>();
     private int sentences = 0;
@@ -25,6 +28,7 @@ public final class EdgesTest {
 
     private void anew() {
         run = new Run();
+        oracle = Run.ofOracle();
         made = new ArrayList<>();
     }
 
@@ -94,11 +98,13 @@ public final class EdgesTest {
 
     private long make(String call) {
         made.add(call);
+        saidByOracle = oracle.call(call);
         return run.call(call);
     }
 
     private void due(String call, long want) {
         Check.due(where + call, make(call), want);
+        Check.due("the Oracle: " + where + call, saidByOracle, want);
     }
 
     private void one(String row) {

@@ -6,23 +6,45 @@ import java.util.HashMap;
 import java.util.List;
 import java.util.Map;
 
-/** A new ShownNot whose calls are told as texts, "border(0, 1, 2)", and counted. */
+/** A new ShownNot, or a new Oracle, whose calls are told as texts, "border(0, 1, 2)", and counted. */
 final class Run {
     /** What later calls answer is free, so a test that makes more is no test. */
     private static final int MOST_CALLS = 512;
-    private static final Map<String, Method> FACE = new HashMap<>();
+    private static final Map<String, Method> FACE = faceOf(ShownNot.class);
+    private static final Map<String, Method> FACE_OF_ORACLE = faceOf(Oracle.class);
     private static final String[] AT_A_GLANCE = glance();
 
-    static {
-        for (Method method : ShownNot.class.getDeclaredMethods()) {
-            if (Modifier.isPublic(method.getModifiers())) {
-                FACE.put(method.getName(), method);
-            }
-        }
+    private final Object x;
+    private final Map<String, Method> face;
+    private int calls = 0;
+
+    private Run(Object x, Map<String, Method> face) {
+        this.x = x;
+        this.face = face;
     }
 
-    private final ShownNot x = new ShownNot();
-    private int calls = 0;
+    Run() {
+        this(new ShownNot(), FACE);
+    }
+
+    static Run ofOracle() {
+        return new Run(new Oracle(), FACE_OF_ORACLE);
+    }
+
+    /** What a class has for each method of the document's face. */
+    private static Map<String, Method> faceOf(Class<?> type) {
+        Map<String, Method> found = new HashMap<>();
+        for (Method method : ShownNot.class.getDeclaredMethods()) {
+            if (Modifier.isPublic(method.getModifiers())) {
+                try {
+                    found.put(method.getName(), type.getDeclaredMethod(method.getName(), method.getParameterTypes()));
+                } catch (NoSuchMethodException missing) {
+                    throw new IllegalStateException(type + " hasn't " + method.getName(), missing);
+                }
+            }
+        }
+        return found;
+    }
 
     /** What a call answers; true counts 1, false 0. */
     long call(String told) {
@@ -30,7 +52,7 @@ final class Run {
         if (calls > MOST_CALLS) {
             throw new IllegalStateException("more than 512 calls, at " + told);
         }
-        Method method = FACE.get(nameOf(told));
+        Method method = face.get(nameOf(told));
         if (method == null) {
             throw new IllegalStateException("no such call: " + told);
         }
