@@ -12,15 +12,22 @@ import java.util.regex.Pattern;
 
 /** The public face, and what of LANGUAGE.md can be looked up in the class and its text. */
 public final class FaceTest {
-    private static final String[] FACE = {"int map(int)", "int border(int,int,int)", "int answer(int,int)",
-        "int swapped(int,int,int)", "int rings(int)", "int turnings(int,int,int)", "int feed(int,int,int,int,int)",
-        "int end(int)", "int showing()", "int fault(int)", "int believed(int,int,int,int,int)",
-        "int right(int,int,int)", "int cheat(int,int,int)", "int nights(int,int,int)", "int tells(int,int,int,int)",
-        "boolean see(int,int,int)", "long weight(int,int,int)", "int possible(int,int,int)",
-        "boolean shut(int,int,int)", "int ask(int)", "int pulled(int)", "boolean lock(int,int,int,int,int)",
-        "int shows(int,int)", "int locks(int)", "int alone(int,int,int,int,int)",
-        "int unlike(int,int,int,int,int)", "boolean letters(int)", "int row(int,int,int)", "int riddle(int)",
-        "int mended(int,int,int,int)", "int image()", "int back()", "int about(int)"};
+    private static final int METHODS = 33;
+
+    /** The methods of the document's face, as "int border(int,int,int)". */
+    private static Set<String> documentsFace() throws IOException {
+        String page = Files.readString(Path.of(System.getProperty("shown.document")));
+        Matcher block = Pattern.compile("(?s)## The public face\\s+```java\n(.*?)```").matcher(page);
+        Set<String> told = new TreeSet<>();
+        Check.due("the document has a face", block.find(), true);
+        Matcher method = Pattern.compile("public (\\w+) (\\w+)\\(([^)]*)\\);").matcher(block.group(1));
+        while (method.find()) {
+            String types = method.group(3).replaceAll(" \\w+(, |$)", ",").replaceAll(",$", "");
+            told.add(method.group(1) + " " + method.group(2) + "(" + types + ")");
+        }
+        Check.due("the methods of the document's face", told.size(), METHODS);
+        return told;
+    }
 
     private static String toldAs(Method method) {
         StringBuilder text = new StringBuilder();
@@ -31,7 +38,7 @@ public final class FaceTest {
         return text.append(')').toString();
     }
 
-    private static void face() throws ReflectiveOperationException {
+    private static void face() throws IOException, ReflectiveOperationException {
         Set<String> open = new TreeSet<>();
         Set<String> names = new HashSet<>();
         for (Method method : ShownNot.class.getDeclaredMethods()) {
@@ -41,7 +48,7 @@ public final class FaceTest {
                 names.add(method.getName());
             }
         }
-        for (String told : FACE) {
+        for (String told : documentsFace()) {
             Check.due("face has " + told, open.remove(told), true);
         }
         Check.due("nothing beside the face: " + open, open.size(), 0);
